@@ -675,32 +675,21 @@ public final class ProgressTracker {
             searches++;
             placeCount = 0;
             addPlace(start / COUNTERS, start % COUNTERS);
-            for (int i = 0; i < placeCount; i++) {
+            for (int i = 0; i < PLACES && i < placeCount; i++) {
                 int location = places[i] / COUNTERS;
                 int counters = places[i] % COUNTERS;
                 if (least[row + location] == NONE || counters < least[row + location]) {
                     least[row + location] = counters;
                 }
-                if (location < MAX_NODES) {
-                    addEdgesOf(graph, location, counters);
-                } else {
-                    addEndOf(graph, location - MAX_NODES, counters);
+                for (int edge = 0; edge < graph.edgeCount; edge++) {
+                    if (graph.starts[edge] == location) {
+                        addPlace(MAX_NODES + edge, counters);
+                    }
                 }
-            }
-        }
-
-        private void addEdgesOf(Graph graph, int node, int counters) {
-            for (int edge = 0; edge < graph.edgeCount; edge++) {
-                if (graph.starts[edge] == node) {
-                    addPlace(MAX_NODES + edge, counters);
+                int after = location < MAX_NODES ? NONE : graph.timeAfter(location - MAX_NODES, counters);
+                if (after != NONE) {
+                    addPlace(graph.ends[location - MAX_NODES], after);
                 }
-            }
-        }
-
-        private void addEndOf(Graph graph, int edge, int counters) {
-            int after = graph.timeAfter(edge, counters);
-            if (after != NONE) {
-                addPlace(graph.ends[edge], after);
             }
         }
 
@@ -762,17 +751,12 @@ public final class ProgressTracker {
         }
 
         private int firstRowFrom(int stamp) {
-            int low = 0;
-            int high = size;
-            while (low < high) {
-                int middle = (low + high) / 2;
-                if (stamps[middle] < stamp) {
-                    low = middle + 1;
-                } else {
-                    high = middle;
+            for (int row = 0; row < size; row++) {
+                if (stamps[row] >= stamp) {
+                    return row;
                 }
             }
-            return low;
+            return size;
         }
 
         private void insert(int row, int stamp, int value) {
