@@ -966,8 +966,11 @@ public final class ProgressTracker {
         int appendNode(int depth, boolean input) {
             int node = graph.appendNode(depth);
             openEpochs[node] = input ? 0 : NONE;
-            for (int worker = 0; input && worker < WORKERS; worker++) {
-                views[worker].change(stampOf(node, 0), 1);
+            if (input) {
+                // All workers know of it from the beginning, so it goes through no queue.
+                for (int worker = 0; worker < WORKERS; worker++) {
+                    views[worker].change(stampOf(node, 0), 1);
+                }
             }
             return node;
         }
