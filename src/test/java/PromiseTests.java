@@ -56,41 +56,6 @@ public final class PromiseTests {
         DUE.same(what, got, want);
     }
 
-    /** Input 0, node 1 of depth 0, edge 0 between them. */
-    private static ProgressTracker line() {
-        ProgressTracker x = new ProgressTracker();
-        x.addNode(0, 1);
-        x.addNode(0, 0);
-        x.addEdge(0, 1, 0);
-        return x;
-    }
-
-    /** Input 0, node 1 of depth 1, edge 0 enters it, edge 1 is its feedback, node 2 of depth 0, edge 2 leaves to it. */
-    private static ProgressTracker loop() {
-        ProgressTracker x = new ProgressTracker();
-        x.addNode(0, 1);
-        x.addNode(1, 0);
-        x.addNode(0, 0);
-        x.addEdge(0, 1, 0);
-        x.addEdge(1, 1, 1);
-        x.addEdge(1, 2, 0);
-        return x;
-    }
-
-    /** Nodes 0 and 1 of depth 1, 2 and 3 of depth 2: edges 2-0 leaving, 0-1 feedback, 1-2 entering, 2-3 feedback. */
-    private static ProgressTracker nines() {
-        ProgressTracker x = new ProgressTracker();
-        x.addNode(1, 0);
-        x.addNode(1, 0);
-        x.addNode(2, 0);
-        x.addNode(2, 0);
-        due("leaving", x.addEdge(2, 0, 0), 0);
-        due("outer feedback", x.addEdge(0, 1, 1), 1);
-        due("entering", x.addEdge(1, 2, 0), 2);
-        due("inner feedback", x.addEdge(2, 3, 1), 3);
-        return x;
-    }
-
     private static void examples() {
         ProgressTracker a = new ProgressTracker();
         due("1 addNode", a.addNode(0, 1), 0);
@@ -242,7 +207,7 @@ public final class PromiseTests {
     }
 
     private static void addEdgeOrderOfChecks() {
-        ProgressTracker x = line();
+        ProgressTracker x = Graphs.line();
         for (int edge = 1; edge < 10; edge++) {
             due("edge", x.addEdge(0, 1, 0), edge);
         }
@@ -257,7 +222,7 @@ public final class PromiseTests {
     }
 
     private static void buildingEnds() {
-        ProgressTracker x = line();
+        ProgressTracker x = Graphs.line();
         due("receiving is no event", x.receive(0, 1), 0);
         due("node", x.addNode(0, 1), 2);
         due("a refused event is none", x.advance(1), NOT);
@@ -283,18 +248,18 @@ public final class PromiseTests {
     }
 
     private static void kind() {
-        ProgressTracker x = loop();
+        ProgressTracker x = Graphs.loop();
         due("entering", x.kind(0), 1);
         due("feedback", x.kind(1), 3);
         due("leaving", x.kind(2), 2);
-        due("plain", line().kind(0), 0);
+        due("plain", Graphs.line().kind(0), 0);
         due("no edge", x.kind(3), OUT);
         due("edge -1", x.kind(-1), OUT);
         due("errors", x.errorCount(OUT), 2);
     }
 
     private static void move() {
-        ProgressTracker x = nines();
+        ProgressTracker x = Graphs.nines();
         due("leaving clears the second counter", x.move(0, 537), 530);
         due("outer feedback", x.move(1, 530), 540);
         due("outer feedback at 9", x.move(1, 590), NONE);
@@ -307,16 +272,16 @@ public final class PromiseTests {
         due("time 1000", x.move(3, 1000), OUT);
         due("no edge", x.move(4, 0), OUT);
         due("edge -1", x.move(-1, 0), OUT);
-        ProgressTracker y = loop();
+        ProgressTracker y = Graphs.loop();
         due("leaving clears the first counter", y.move(2, 470), 400);
         due("entering from depth 0", y.move(0, 400), 400);
         due("counter at depth 0", y.move(0, 410), OUT);
-        due("plain", line().move(0, 900), 900);
-        due("nothing saved", line().undo(), 2);
+        due("plain", Graphs.line().move(0, 900), 900);
+        due("nothing saved", Graphs.line().undo(), 2);
     }
 
     private static void couldResultIn() {
-        ProgressTracker x = loop();
+        ProgressTracker x = Graphs.loop();
         due("itself", x.couldResultIn(1, 30, 1, 30), 1);
         due("later epoch", x.couldResultIn(1, 30, 1, 130), 1);
         due("later epoch, lesser counters", x.couldResultIn(1, 30, 1, 120), 0);
@@ -326,9 +291,9 @@ public final class PromiseTests {
         due("feedback edge to its node", x.couldResultIn(7, 30, 1, 40), 1);
         due("out of the loop", x.couldResultIn(1, 90, 2, 0), 1);
         due("not against the edges", x.couldResultIn(2, 0, 0, 900), 0);
-        due("lexicographic", nines().couldResultIn(2, 19, 2, 20), 1);
-        due("lexicographic", nines().couldResultIn(2, 20, 2, 19), 0);
-        due("counters are not compared apart", nines().couldResultIn(2, 9, 2, 10), 1);
+        due("lexicographic", Graphs.nines().couldResultIn(2, 19, 2, 20), 1);
+        due("lexicographic", Graphs.nines().couldResultIn(2, 20, 2, 19), 0);
+        due("counters are not compared apart", Graphs.nines().couldResultIn(2, 9, 2, 10), 1);
         due("no location 3", x.couldResultIn(3, 0, 0, 0), OUT);
         due("no location 9", x.couldResultIn(0, 0, 9, 0), OUT);
         due("location -1", x.couldResultIn(-1, 0, 0, 0), OUT);
@@ -342,7 +307,7 @@ public final class PromiseTests {
     }
 
     private static void earliest() {
-        ProgressTracker x = loop();
+        ProgressTracker x = Graphs.loop();
         due("itself", x.earliest(1, 330, 1), 330);
         due("feedback edge to its node", x.earliest(7, 330, 1), 340);
         due("feedback edge to itself", x.earliest(7, 330, 7), 330);
@@ -381,7 +346,7 @@ public final class PromiseTests {
 
     // The least timestamp at node 2 is 9, which can't go on; the way round the outer loop makes it 10, which can.
     private static void earliestGoesRoundNines() {
-        ProgressTracker x = nines();
+        ProgressTracker x = Graphs.nines();
         due("straight on", x.earliest(2, 8, 3), 9);
         due("once round", x.earliest(2, 9, 3), 11);
         due("once round", x.couldResultIn(2, 9, 3, 11), 1);
@@ -393,7 +358,7 @@ public final class PromiseTests {
     }
 
     private static void send() {
-        ProgressTracker x = loop();
+        ProgressTracker x = Graphs.loop();
         due("no edge", x.send(3, 0), OUT);
         due("edge -1", x.send(-1, 0), OUT);
         for (int flag : BAD_FLAGS) {
@@ -418,7 +383,7 @@ public final class PromiseTests {
     }
 
     private static void advance() {
-        ProgressTracker x = line();
+        ProgressTracker x = Graphs.line();
         due("no node", x.advance(2), OUT);
         due("node -1", x.advance(-1), OUT);
         due("no input", x.advance(1), NOT);
@@ -440,7 +405,7 @@ public final class PromiseTests {
     }
 
     private static void close() {
-        ProgressTracker x = line();
+        ProgressTracker x = Graphs.line();
         due("no node", x.close(2), OUT);
         due("node -1", x.close(-1), OUT);
         due("no input", x.close(1), NOT);
@@ -458,7 +423,7 @@ public final class PromiseTests {
     }
 
     private static void processRefuses() {
-        ProgressTracker x = loop();
+        ProgressTracker x = Graphs.loop();
         x.send(0, 0);
         for (int flag : BAD_FLAGS) {
             due("worker", x.process(flag, 0, 0, 0, 0), OUT);
@@ -483,7 +448,7 @@ public final class PromiseTests {
     }
 
     private static void processOrderOfChecks() {
-        ProgressTracker x = loop();
+        ProgressTracker x = Graphs.loop();
         due("range before message", x.process(0, 0, 0, 0, 2), OUT);
         due("outputs' range before message", x.process(0, 0, 8, 0, 0), OUT);
         fillFeedback(x, 1);
@@ -494,7 +459,7 @@ public final class PromiseTests {
         due("full", x.process(0, 0, 2, 1, 0), FULL);
     }
 
-    // Puts 12 messages with timestamp 0 on edge 1 of loop() for a worker.
+    // Puts 12 messages with timestamp 0 on edge 1 of Graphs.loop() for a worker.
     private static void fillFeedback(ProgressTracker x, int worker) {
         for (int i = 0; i < 12; i++) {
             x.send(0, 0);
@@ -503,7 +468,7 @@ public final class PromiseTests {
     }
 
     private static void processFull() {
-        ProgressTracker x = loop();
+        ProgressTracker x = Graphs.loop();
         fillFeedback(x, 0);
         x.send(0, 0);
         due("full", x.process(0, 0, 2, 0, 0), FULL);
@@ -511,7 +476,7 @@ public final class PromiseTests {
         due("not for the other worker", x.process(0, 1, 2, 1, 0), 10);
         due("now there is room", x.process(0, 1, 2, 0, 0), 10);
         due("ordered by the time when put", x.messageTime(0, 1, 10), 10);
-        ProgressTracker y = loop();
+        ProgressTracker y = Graphs.loop();
         for (int i = 0; i < 13; i++) {
             y.send(0, 0);
             due("request", y.process(0, 0, 0, 0, 1), i < 12 ? 0 : FULL);
@@ -524,7 +489,7 @@ public final class PromiseTests {
     }
 
     private static void processUpdates() {
-        ProgressTracker x = loop();
+        ProgressTracker x = Graphs.loop();
         x.send(0, 1);
         x.receive(1, 1);
         due("process", x.process(1, 0, 6, 0, 1), 0);
@@ -541,7 +506,7 @@ public final class PromiseTests {
             due("receive", x.receive(0, 1), 1);
             due("update " + i, x.count(0, places[i], 0), after[i]);
         }
-        ProgressTracker y = loop();
+        ProgressTracker y = Graphs.loop();
         y.send(0, 0);
         y.advance(0);
         y.send(0, 0);
@@ -552,7 +517,7 @@ public final class PromiseTests {
     }
 
     private static void processDrops() {
-        ProgressTracker x = loop();
+        ProgressTracker x = Graphs.loop();
         x.send(0, 0);
         x.process(0, 0, 2, 0, 0);
         for (int counter = 1; counter <= 9; counter++) {
@@ -573,7 +538,7 @@ public final class PromiseTests {
 
     // A message that would be dropped is refused all the same if an edge or the requests are full.
     private static void dropWhenFull() {
-        ProgressTracker x = loop();
+        ProgressTracker x = Graphs.loop();
         fillFeedback(x, 1);
         x.send(0, 0);
         x.process(0, 0, 2, 0, 0);
@@ -592,7 +557,7 @@ public final class PromiseTests {
     }
 
     private static void deliver() {
-        ProgressTracker x = loop();
+        ProgressTracker x = Graphs.loop();
         x.send(0, 0);
         x.process(0, 0, 0, 0, 1);
         for (int flag : BAD_FLAGS) {
@@ -610,7 +575,7 @@ public final class PromiseTests {
         due("not requested at node 2", x.deliver(0, 2, 0, 0), NOT);
         due("delivered", x.deliver(0, 1, 0, 0), 0);
         due("only once", x.deliver(0, 1, 0, 0), NOT);
-        ProgressTracker y = loop();
+        ProgressTracker y = Graphs.loop();
         fillFeedback(y, 1);
         y.send(0, 0);
         y.process(0, 0, 0, 0, 1);
@@ -622,29 +587,13 @@ public final class PromiseTests {
         due("not for worker 0", y.deliver(0, 1, 2, 0), 0);
     }
 
-    // Worker 0 has requests for 20 and 100 at node 1, and a message with 0 on the feedback edge holds back 20 alone.
-    private static ProgressTracker twoRequests() {
-        ProgressTracker x = loop();
-        x.send(0, 0);
-        x.send(0, 0);
-        x.advance(0);
-        x.send(0, 0);
-        x.advance(0);
-        x.process(0, 0, 2, 0, 0);
-        x.process(0, 0, 2, 1, 0);
-        x.process(0, 1, 2, 0, 0);
-        due("20", x.process(0, 1, 0, 0, 1), 20);
-        due("100", x.process(0, 0, 0, 0, 1), 100);
-        return x;
-    }
-
     private static void deliverChoosesTheLeastThatCan() {
-        ProgressTracker x = twoRequests();
+        ProgressTracker x = Graphs.twoRequests();
         due("two requests", x.requests(0, 1), 2);
         due("100 is not held back", x.deliverable(0, 1), 100);
         due("deliver", x.deliver(0, 1, 0, 0), 100);
         due("20 is", x.deliver(0, 1, 0, 0), NOT);
-        ProgressTracker y = twoRequests();
+        ProgressTracker y = Graphs.twoRequests();
         due("the message goes", y.process(1, 1, 0, 0, 0), 10);
         due("worker 0 does not know", y.deliverable(0, 1), 100);
         y.receive(0, 99);
@@ -654,7 +603,7 @@ public final class PromiseTests {
     }
 
     private static void deliverUpdates() {
-        ProgressTracker x = loop();
+        ProgressTracker x = Graphs.loop();
         x.send(0, 0);
         x.send(0, 0);
         x.process(0, 0, 0, 0, 1);
@@ -680,7 +629,7 @@ public final class PromiseTests {
     }
 
     private static void receive() {
-        ProgressTracker x = line();
+        ProgressTracker x = Graphs.line();
         due("count 0", x.receive(0, 0), OUT);
         due("count 100", x.receive(0, 100), OUT);
         due("count -1", x.receive(0, -1), OUT);
@@ -707,7 +656,7 @@ public final class PromiseTests {
     }
 
     private static void messages() {
-        ProgressTracker x = line();
+        ProgressTracker x = Graphs.line();
         due("no edge", x.messages(0, 1), OUT);
         due("edge -1", x.messages(0, -1), OUT);
         due("no edge", x.messageTime(0, 1, 0), OUT);
@@ -733,14 +682,14 @@ public final class PromiseTests {
     }
 
     private static int loopMessage() {
-        ProgressTracker x = loop();
+        ProgressTracker x = Graphs.loop();
         x.send(0, 0);
         x.process(0, 0, 2, 0, 0);
         return x.messageTime(0, 1, 0);
     }
 
     private static void requests() {
-        ProgressTracker x = twoRequests();
+        ProgressTracker x = Graphs.twoRequests();
         due("both", x.requests(0, 1), 2);
         due("none at node 2", x.requests(0, 2), 0);
         due("none of worker 1", x.requests(1, 1), 0);
@@ -754,7 +703,7 @@ public final class PromiseTests {
     }
 
     private static void deliverable() {
-        ProgressTracker x = twoRequests();
+        ProgressTracker x = Graphs.twoRequests();
         due("least", x.deliverable(0, 1), 100);
         due("none at node 2", x.deliverable(0, 2), NONE);
         due("none of worker 1", x.deliverable(1, 1), NONE);
@@ -764,7 +713,7 @@ public final class PromiseTests {
             due("worker", x.deliverable(flag, 1), OUT);
         }
         due("nothing is delivered by asking", x.requests(0, 1), 2);
-        ProgressTracker y = line();
+        ProgressTracker y = Graphs.line();
         y.send(0, 1);
         y.process(1, 0, 0, 0, 1);
         y.advance(0);
@@ -776,7 +725,7 @@ public final class PromiseTests {
     }
 
     private static void count() {
-        ProgressTracker x = loop();
+        ProgressTracker x = Graphs.loop();
         due("no location", x.count(0, 3, 0), OUT);
         due("no edge", x.count(0, 9, 0), OUT);
         due("location 16", x.count(0, 16, 0), OUT);
@@ -801,7 +750,7 @@ public final class PromiseTests {
     }
 
     private static void active() {
-        ProgressTracker x = line();
+        ProgressTracker x = Graphs.line();
         for (int flag : BAD_FLAGS) {
             due("worker", x.active(flag), OUT);
         }
@@ -818,7 +767,7 @@ public final class PromiseTests {
     }
 
     private static void frontier() {
-        ProgressTracker x = twoRequests();
+        ProgressTracker x = Graphs.twoRequests();
         due("index -2", x.frontier(0, -2), OUT);
         for (int flag : BAD_FLAGS) {
             due("worker", x.frontier(flag, 0), OUT);
@@ -843,7 +792,7 @@ public final class PromiseTests {
     }
 
     private static void pending() {
-        ProgressTracker x = line();
+        ProgressTracker x = Graphs.line();
         for (int flag : BAD_FLAGS) {
             due("worker", x.pending(flag), OUT);
         }
@@ -859,7 +808,7 @@ public final class PromiseTests {
     }
 
     private static void delivered() {
-        ProgressTracker x = loop();
+        ProgressTracker x = Graphs.loop();
         due("none", x.delivered(), 0);
         x.send(0, 0);
         x.send(0, 1);
@@ -880,7 +829,7 @@ public final class PromiseTests {
 
     // A frontier keeps every message away that would be a violation; what must not count comes close to one.
     private static void violations() {
-        ProgressTracker x = twoRequests();
+        ProgressTracker x = Graphs.twoRequests();
         due("none", x.violations(), 0);
         due("100 is delivered", x.deliver(0, 1, 0, 0), 100);
         due("10 is less as a number, but not at most 100", x.process(1, 1, 4, 1, 0), 10);
@@ -896,7 +845,7 @@ public final class PromiseTests {
 
     // A delivery that was undone does not make a violation, however often states are saved and restored after it.
     private static void violationsAfterUndo() {
-        ProgressTracker x = line();
+        ProgressTracker x = Graphs.line();
         x.send(0, 0);
         x.process(0, 0, 0, 0, 1);
         x.advance(0);
@@ -926,7 +875,7 @@ public final class PromiseTests {
         due("the older ones are dropped", x.undo(), EMPTY);
         due("two nodes are left", x.addNode(0, 0), 2);
         due("errors are not undone", x.errorCount(EMPTY), 3);
-        ProgressTracker y = line();
+        ProgressTracker y = Graphs.line();
         due("a refused call saves nothing", y.advance(1), NOT);
         due("nor does a question", y.active(0), 1);
         due("the edge", y.undo(), 2);
@@ -937,14 +886,14 @@ public final class PromiseTests {
     // Each undoable call in turn: the digest after undo is the one from before, but for the number of saved states.
     private static void undoRestoresAll() {
         for (int call = 0; call < 9; call++) {
-            ProgressTracker x = twoRequests();
+            ProgressTracker x = Graphs.twoRequests();
             x.receive(1, 2);
             long before = x.digest();
             due("call " + call, undoable(x, call) < NONE ? 1 : 0, 0);
             due("undo " + call, x.undo(), 2);
             due("one state less after call " + call, x.digest(), before - 1);
         }
-        ProgressTracker y = line();
+        ProgressTracker y = Graphs.line();
         long before = y.digest();
         y.addNode(0, 1);
         y.addEdge(2, 1, 0);
@@ -994,7 +943,7 @@ public final class PromiseTests {
     }
 
     private static void digest() {
-        ProgressTracker x = twoRequests();
+        ProgressTracker x = Graphs.twoRequests();
         x.kind(7);
         x.close(1);
         x.close(2);
@@ -1027,7 +976,7 @@ public final class PromiseTests {
 
     // Nothing is promised after 512 calls, but no call may throw even then.
     private static void beyondTheLastCall() {
-        ProgressTracker x = line();
+        ProgressTracker x = Graphs.line();
         for (int i = 0; i < 20000; i++) {
             x.send(0, 0);
             x.process(0, 0, 0, 0, 0);

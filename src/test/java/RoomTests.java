@@ -33,22 +33,11 @@ public final class RoomTests {
 
     // Nested loops, every output taken, worker 1 receives nothing: views and queues grow as far as they can.
     private static long run() {
-        ProgressTracker x = new ProgressTracker();
-        int[] depths = {0, 1, 2, 2, 1, 0};
-        int[][] edges = {{0, 1, 0}, {1, 2, 0}, {2, 3, 0}, {3, 2, 1}, {3, 4, 0}, {4, 1, 1}, {4, 5, 0}, {2, 4, 0}, {3, 3, 1}, {2, 2, 1}};
-        for (int node = 0; node < depths.length; node++) {
-            x.addNode(depths[node], node == 0 ? 1 : 0);
-        }
-        for (int[] edge : edges) {
-            x.addEdge(edge[0], edge[1], edge[2]);
-        }
+        ProgressTracker x = Graphs.largest();
         long sum = x.send(0, 0);
         for (int call = 17; call < 512; call++) {
-            int edge = call % edges.length;
-            int outputs = 0;
-            for (int k = 0; k < edges.length; k++) {
-                outputs |= edges[k][0] == edges[edge][1] ? 1 << k : 0;
-            }
+            int edge = call % 10;
+            int outputs = Graphs.largestOutputs(edge);
             sum = 31 * sum + (call % 4 == 3 ? x.digest() : edge == 0 ? x.send(0, call / 10 % 2)
                     : call % 50 == 1 ? x.advance(0) : x.process(call / 10 % 2, edge, outputs, call / 20 % 2, call % 2));
             sum = 31 * sum + x.process(call / 10 % 2, edge, outputs, call % 3 % 2, 0);
