@@ -131,11 +131,20 @@ public final class BuildingSentenceTests {
         refused("after advance", NOT, () -> after(Graphs.loop(), x -> x.advance(0)), x -> x.addNode(0, 0));
         refused("after close", NOT, () -> after(Graphs.loop(), x -> x.close(0)), x -> x.addNode(0, 0));
         refused("after many", NOT, Graphs::twoRequests, x -> x.addNode(0, 1));
+        refused("after two, of which one was undone", NOT, () -> afterOneOfTwo(), x -> x.addNode(0, 0));
         due("after a refused send", after(Graphs.loop(), x -> x.send(1, 0)).addNode(0, 0), 3);
         due("after a refused advance", after(Graphs.loop(), x -> x.advance(1)).addNode(0, 0), 3);
         due("after a refused close", after(Graphs.loop(), x -> x.close(1)).addNode(0, 0), 3);
         due("after a refused process", after(Graphs.loop(), x -> x.process(0, 0, 0, 0, 0)).addNode(0, 0), 3);
         due("after a refused deliver", after(Graphs.loop(), x -> x.deliver(0, 1, 0, 0)).addNode(0, 0), 3);
+    }
+
+    private static ProgressTracker afterOneOfTwo() {
+        ProgressTracker x = Graphs.loop();
+        x.send(0, 0);
+        x.send(0, 0);
+        x.undo();
+        return x;
     }
 
     @Holds(promise = 2, sentence = "FULL if there are 6 nodes.")
@@ -221,6 +230,7 @@ public final class BuildingSentenceTests {
         refused("after send", NOT, () -> after(Graphs.loop(), x -> x.send(0, 0)), x -> x.addEdge(0, 2, 0));
         refused("after advance", NOT, () -> after(Graphs.loop(), x -> x.advance(0)), x -> x.addEdge(0, 2, 0));
         refused("after close", NOT, () -> after(Graphs.loop(), x -> x.close(0)), x -> x.addEdge(0, 2, 0));
+        refused("after two, of which one was undone", NOT, () -> afterOneOfTwo(), x -> x.addEdge(0, 2, 0));
         due("after a refused event", after(Graphs.loop(), x -> x.close(2)).addEdge(0, 2, 0), 3);
         due("after an event that was undone", after(after(Graphs.loop(), x -> x.send(0, 0)), x -> x.undo()).addEdge(0, 2, 0), 3);
     }
@@ -495,7 +505,9 @@ public final class BuildingSentenceTests {
         for (int edge : Bounds.outside(0, 2)) {
             refused("edge " + edge, OUT, Graphs::loop, x -> x.kind(edge));
         }
-        refused("an eleventh edge", OUT, Graphs::largest, x -> x.kind(10));
+        for (int edge : Bounds.outside(0, 9)) {
+            refused("of ten edges: " + edge, OUT, Graphs::largest, x -> x.kind(edge));
+        }
         Twins.asked(DUE, "the least", 1, Graphs::largest, x -> x.kind(0));
         Twins.asked(DUE, "the greatest", 3, Graphs::largest, x -> x.kind(9));
     }

@@ -63,6 +63,15 @@ final class Graphs {
         return x;
     }
 
+    /** Node 0 of depth 1 with feedback edge 0, input 1, edge 1 from the input to node 0: edge 0 is no edge of the input. */
+    static ProgressTracker lateInput() {
+        ProgressTracker x = nodes(1);
+        x.addEdge(0, 0, 1);
+        x.addNode(0, 1);
+        x.addEdge(1, 0, 0);
+        return x;
+    }
+
     /** The edges of largest() that start at the node to which an edge leads, as a bit set. */
     static int largestOutputs(int edge) {
         int outputs = 0;
@@ -112,10 +121,15 @@ final class Graphs {
 
     /** The loop with so many requests of worker 0 for 0 at node 1. */
     static ProgressTracker requestsOf(int requests) {
+        return requestsOf(requests, 0);
+    }
+
+    /** The loop with so many requests of a worker for 0 at node 1. */
+    static ProgressTracker requestsOf(int requests, int worker) {
         ProgressTracker x = loop();
         for (int i = 0; i < requests; i++) {
-            x.send(0, 0);
-            x.process(0, 0, 0, 0, 1);
+            x.send(0, worker);
+            x.process(worker, 0, 0, 0, 1);
         }
         return x;
     }

@@ -148,9 +148,13 @@ public final class InputSentenceTests {
         for (int edge : Bounds.outside(0, 2)) {
             refused("edge " + edge, OUT, Graphs::twoRequests, x -> x.send(edge, 0));
         }
-        refused("an eleventh edge", OUT, Graphs::tenEdges, x -> x.send(10, 0));
+        for (int edge : Bounds.outside(0, 9)) {
+            refused("of ten edges: " + edge, OUT, Graphs::tenEdges, x -> x.send(edge, 0));
+        }
         due("the least", Graphs.tenEdges().send(0, 0), 0);
         due("the greatest", Graphs.tenEdges().send(9, 0), 0);
+        refused("edge 0 of another node", NOT, Graphs::lateInput, x -> x.send(0, 0));
+        due("edge 1 of the input", Graphs.lateInput().send(1, 0), 0);
     }
 
     @Holds(promise = 8, sentence = {"`worker`: worker for which the message is put on the edge", "OUT_OF_RANGE if there is no such edge or worker"})

@@ -216,6 +216,27 @@ public final class StateSentenceTests {
         due("so is what it says", x.count(1, 1, 100), 1001);
     }
 
+    @Holds(promise = 0, sentence = "The saved state contains everything")
+    static void p00LargestGraphIsSaved() {
+        ProgressTracker x = Graphs.largest();
+        List<Integer> before = waysOf(x);
+        for (int i = 0; i < 5; i++) {
+            x.advance(0);
+        }
+        for (int i = 0; i < 3; i++) {
+            x.undo();
+            DUE.holds("kinds, moves and ways of ten edges", waysOf(x).equals(before));
+        }
+    }
+
+    private static List<Integer> waysOf(ProgressTracker x) {
+        List<Integer> answers = new ArrayList<>();
+        for (int edge = 0; edge < 10; edge++) {
+            answers.addAll(List.of(x.kind(edge), x.move(edge, 0), x.earliest(0, 0, 6 + edge), x.earliest(6 + edge, 0, 5)));
+        }
+        return answers;
+    }
+
     private static List<Long> answers(ProgressTracker x) {
         List<Long> answers = new ArrayList<>();
         for (int worker = 0; worker < 2; worker++) {
@@ -480,9 +501,10 @@ public final class StateSentenceTests {
             for (int edge = 0; edge < 10; edge++) {
                 x.send(edge, i % 2);
             }
+            x.advance(0);
         }
         int[][] edges = {{0, 1}, {0, 1}, {0, 1}, {0, 1}, {0, 1}, {0, 1}, {0, 1}, {0, 1}, {0, 1}, {0, 1}};
-        due("some 200 values", x.digest(), hashOf(x, new int[] {0, 0}, new int[] {0, NONE}, edges, 3));
+        due("some 200 values", x.digest(), hashOf(x, new int[] {0, 0}, new int[] {9, NONE}, edges, 3));
     }
 
     // ---- the 512th call
@@ -496,6 +518,14 @@ public final class StateSentenceTests {
             due("process", x.process(0, 0, 0, 0, 0), 0);
         }
         due("the 512th call", x.pending(1), 508);
+        ProgressTracker z = Graphs.loop();
+        for (int i = 0; i < 42; i++) {
+            // 12 calls and 22 updates: nine rounds, and the message is dropped.
+            Graphs.nineRounds(z);
+            due("dropped", z.process(0, 1, 0, 0, 0), NONE);
+        }
+        due("the 511th call", z.pending(1), 42 * 22);
+        due("the 512th call", z.receive(1, 99), 99);
         ProgressTracker y = Graphs.loop();
         for (int i = 6; i < 511; i++) {
             y.receive(2, 1);

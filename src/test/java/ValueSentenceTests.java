@@ -140,6 +140,7 @@ public final class ValueSentenceTests {
         asked("none of the other worker", 0, Graphs::twoRequests, x -> x.requests(1, 1));
         asked("none at another node", 0, Graphs::twoRequests, x -> x.requests(0, 2));
         asked("as many equal ones as can be", 12, () -> Graphs.requestsOf(12), x -> x.requests(0, 1));
+        asked("as many of worker 1", 12, () -> Graphs.requestsOf(12, 1), x -> x.requests(1, 1));
         ProgressTracker x = Graphs.requestsOf(12);
         x.close(0);
         for (int left = 11; left >= 0; left--) {
@@ -246,11 +247,70 @@ public final class ValueSentenceTests {
         x.process(1, 0, 0, 0, 0);
         x.process(1, 0, 0, 0, 0);
         due("-2", x.count(1, 6, 0), 998);
+        due("which is not active", x.active(1), 1);
+        due("nor on the frontier", x.frontier(1, -1), 1);
+        due("where the input alone is", x.frontier(1, 0), 0);
+        due("and nothing else", x.frontier(1, 1), NONE);
         x.receive(1, 1);
         due("-1", x.count(1, 6, 0), 999);
         x.receive(1, 1);
         due("0", x.count(1, 6, 0), 1000);
         due("the other view", x.count(0, 6, 0), 1002);
+    }
+
+    @Holds(promise = 0, sentence = "Each worker has a view, which has a count for each pointstamp")
+    static void p00ManyPointstamps() {
+        // One message on each of ten edges in each of ten epochs, and the input: 101 pointstamps.
+        ProgressTracker x = Graphs.tenEdges();
+        for (int epoch = 0; epoch <= 9; epoch++) {
+            for (int edge = 9; edge >= 0; edge--) {
+                x.send(edge, (edge + epoch) % 2);
+            }
+            x.advance(0);
+        }
+        due("worker 0", x.active(0), 101);
+        due("all 118 updates", x.receive(1, 99) + x.receive(1, 99), 118);
+        due("worker 1", x.active(1), 101);
+        for (int edge = 0; edge < 10; edge++) {
+            for (int epoch = 0; epoch <= 9; epoch++) {
+                due("count", x.count(1, 6 + edge, 100 * epoch), 1001);
+            }
+        }
+        due("the first message of each edge and the input", x.frontier(0, -1), 11);
+        due("edge 9", x.frontier(1, 10), 15000);
+        takeMessagesFromTheLastEdge();
+        x.undo();
+        due("99 updates are 8 epochs of 12 and 3 messages", x.active(1), 8 * 10 + 1 + 3);
+    }
+
+    private static void takeMessagesFromTheLastEdge() {
+        ProgressTracker x = Graphs.tenEdges();
+        for (int epoch = 0; epoch <= 9; epoch++) {
+            for (int edge = 7; edge < 10; edge++) {
+                x.send(edge, 0);
+            }
+            x.advance(0);
+        }
+        for (int epoch = 0; epoch <= 9; epoch++) {
+            due("process", x.process(0, 9, 0, 0, 0), 100 * epoch);
+            due("no longer counted", x.count(0, 15, 100 * epoch), 1000);
+            due("the others are", x.active(0), 30 - epoch);
+        }
+        due("the last one of edge 8", x.count(0, 14, 900), 1001);
+    }
+
+    @Holds(promise = 18, sentence = "Returns 1000 plus the count")
+    static void p18FirstNode() {
+        ProgressTracker x = Graphs.lateInput();
+        x.send(1, 0);
+        x.process(0, 1, 0, 0, 1);
+        due("worker 0 requested 0 at node 0", x.count(0, 0, 0), 1001);
+        x.receive(1, 99);
+        due("worker 1 knows", x.count(1, 0, 0), 1001);
+        x.close(1);
+        x.deliver(0, 0, 0, 0);
+        x.receive(1, 99);
+        due("delivered", x.count(1, 0, 0), 1000);
     }
 
     // ---- promise 19

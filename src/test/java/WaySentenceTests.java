@@ -120,7 +120,13 @@ public final class WaySentenceTests {
         for (int edge : Bounds.outside(0, 2)) {
             refused("edge " + edge, Graphs::loop, x -> x.move(edge, 0));
         }
-        refused("an eleventh edge", Graphs::largest, x -> x.move(10, 0));
+        for (int edge : Bounds.outside(0, 9)) {
+            refused("of ten edges: " + edge, Graphs::largest, x -> x.move(edge, 0));
+        }
+        for (int edge = -6; edge < 0; edge++) {
+            int k = edge;
+            refused("location " + (6 + k) + " is no edge", Graphs::largest, x -> x.move(k, 0));
+        }
         asked("the least edge", 900, Graphs::largest, x -> x.move(0, 900));
         asked("the greatest edge", 999, Graphs::largest, x -> x.move(9, 998));
     }

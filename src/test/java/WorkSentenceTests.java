@@ -1,3 +1,7 @@
+import java.util.ArrayList;
+import java.util.List;
+import java.util.Map;
+import java.util.TreeMap;
 import java.util.function.Supplier;
 import java.util.function.ToIntFunction;
 
@@ -45,6 +49,14 @@ public final class WorkSentenceTests {
         return x;
     }
 
+    /** The largest graph with a message of worker 0 on edge 1, which leads to node 2. */
+    private static ProgressTracker messageAtTheInnerLoop() {
+        ProgressTracker x = Graphs.largest();
+        x.send(0, 0);
+        x.process(0, 0, 2, 0, 0);
+        return x;
+    }
+
     /** The loop, closed, with one request of worker 0 for 0 at node 1, which can be delivered. */
     private static ProgressTracker oneDeliverable() {
         ProgressTracker x = Graphs.requestsOf(1);
@@ -81,7 +93,9 @@ public final class WorkSentenceTests {
         for (int edge : Bounds.outside(0, 2)) {
             refused("edge " + edge, OUT, WorkSentenceTests::twoMessages, x -> x.process(0, edge, 0, 0, 0));
         }
-        refused("an eleventh edge", OUT, Graphs::tenEdges, x -> x.process(0, 10, 0, 0, 0));
+        for (int edge : Bounds.outside(0, 9)) {
+            refused("of ten edges: " + edge, OUT, Graphs::tenEdges, x -> x.process(0, edge, 0, 0, 0));
+        }
         ProgressTracker x = Graphs.tenEdges();
         x.send(0, 0);
         x.send(9, 0);
@@ -122,12 +136,7 @@ public final class WorkSentenceTests {
         for (int outputs : missing) {
             refused("outputs " + outputs, OUT, WorkSentenceTests::twoMessages, x -> x.process(0, 0, outputs, 0, 0));
         }
-        Supplier<ProgressTracker> made = () -> {
-            ProgressTracker x = Graphs.largest();
-            x.send(0, 0);
-            x.process(0, 0, 2, 0, 0);
-            return x;
-        };
+        Supplier<ProgressTracker> made = WorkSentenceTests::messageAtTheInnerLoop;
         refused("bit 10 of ten edges", OUT, made, x -> x.process(0, 1, 1 << 10, 0, 0));
         ProgressTracker x = made.get();
         due("bits 2, 7 and 9", x.process(0, 1, 1 << 2 | 1 << 7 | 1 << 9, 1, 0), 0);
@@ -137,6 +146,10 @@ public final class WorkSentenceTests {
         ProgressTracker y = made.get();
         due("no bit", y.process(0, 1, 0, 1, 0), 0);
         due("no message", y.messages(1, 2) + y.messages(1, 7) + y.messages(1, 9), 0);
+        ProgressTracker z = Graphs.lateInput();
+        z.send(1, 0);
+        due("bit 0", z.process(0, 1, 1, 1, 0), 0);
+        due("edge 0", z.messages(1, 0), 1);
     }
 
     @Holds(promise = 11, sentence = "NOT_POSSIBLE if the worker has no message on the edge")
@@ -170,6 +183,8 @@ public final class WorkSentenceTests {
         }
         due("all that start there", twoMessages().process(0, 0, 6, 0, 0), 0);
         due("none", atTheEnd.get().process(0, 2, 0, 0, 0), 0);
+        refused("edge 8 of ten", NOT, WorkSentenceTests::messageAtTheInnerLoop, x -> x.process(0, 1, 1 << 8, 0, 0));
+        refused("edges 6 and 9 of ten", NOT, WorkSentenceTests::messageAtTheInnerLoop, x -> x.process(0, 1, 1 << 9 | 1 << 6, 0, 0));
         refused("a message that would be dropped", NOT, () -> Graphs.nineRounds(Graphs.loop()), x -> x.process(0, 1, 1, 0, 0));
     }
 
@@ -189,6 +204,33 @@ public final class WorkSentenceTests {
         due("no edge", fullFeedback(1).process(0, 0, 0, 1, 0), 0);
     }
 
+    @Holds(promise = 11, sentence = "FULL if one of the edges of outputs has 12 messages for the target already")
+    static void p11FullFirstAndLastEdge() {
+        Supplier<ProgressTracker> first = () -> {
+            ProgressTracker x = Graphs.lateInput();
+            for (int i = 0; i < 13; i++) {
+                x.send(1, 0);
+                x.process(0, 1, i < 12 ? 1 : 0, 0, 0);
+            }
+            x.send(1, 0);
+            return x;
+        };
+        refused("edge 0", FULL, first, x -> x.process(0, 1, 1, 0, 0));
+        Supplier<ProgressTracker> last = () -> {
+            ProgressTracker x = Graphs.largest();
+            for (int i = 0; i < 12; i++) {
+                x.send(0, 0);
+                x.process(0, 0, 2, 0, 0);
+                x.process(0, 1, 1 << 9, 0, 0);
+            }
+            x.send(0, 0);
+            x.process(0, 0, 2, 0, 0);
+            return x;
+        };
+        refused("edge 9", FULL, last, x -> x.process(0, 1, 1 << 9 | 1 << 2, 0, 0));
+        due("edge 9 for the other target", last.get().process(0, 1, 1 << 9, 1, 0), 0);
+    }
+
     @Holds(promise = 11, sentence = "or if a notification is requested and the worker has 12 requests")
     static void p11FullRequests() {
         ProgressTracker x = Graphs.requestsOf(11);
@@ -199,6 +241,14 @@ public final class WorkSentenceTests {
         refused("with outputs", FULL, WorkSentenceTests::fullRequests, y -> y.process(0, 0, 6, 1, 1));
         due("not requested", fullRequests().process(0, 0, 6, 0, 0), 0);
         due("by the other worker", fullRequests().process(1, 0, 0, 0, 1), 0);
+        Supplier<ProgressTracker> ofWorker1 = () -> {
+            ProgressTracker z = Graphs.requestsOf(12, 1);
+            z.send(0, 1);
+            z.send(0, 0);
+            return z;
+        };
+        refused("the thirteenth of worker 1", FULL, ofWorker1, z -> z.process(1, 0, 0, 0, 1));
+        due("the first of worker 0", ofWorker1.get().process(0, 0, 0, 1, 1), 0);
         ProgressTracker y = fullRequests();
         y.process(0, 0, 4, 0, 0);
         due("at another node: the worker's requests count together", y.process(0, 2, 0, 0, 1), FULL);
@@ -449,6 +499,12 @@ public final class WorkSentenceTests {
         ProgressTracker x = nested.get();
         due("bit 9 of ten edges", x.deliver(0, 2, 1 << 9, 1), 0);
         due("edge 9", x.messages(1, 9), 1);
+        ProgressTracker y = Graphs.lateInput();
+        y.send(1, 0);
+        y.process(0, 1, 0, 0, 1);
+        y.close(1);
+        due("bit 0", y.deliver(0, 0, 1, 1), 0);
+        due("edge 0", y.messages(1, 0), 1);
     }
 
     @Holds(promise = 12, sentence = "NOT_POSSIBLE if there is no such notification")
@@ -467,6 +523,14 @@ public final class WorkSentenceTests {
         refused("the edge that leads to it", NOT, WorkSentenceTests::oneDeliverable, x -> x.deliver(0, 1, 1, 0));
         refused("one of three", NOT, WorkSentenceTests::oneDeliverable, x -> x.deliver(0, 1, 7, 0));
         due("all that start there", oneDeliverable().deliver(0, 1, 6, 0), 0);
+        Supplier<ProgressTracker> nested = () -> {
+            ProgressTracker x = messageAtTheInnerLoop();
+            x.process(0, 1, 0, 0, 1);
+            x.close(0);
+            return x;
+        };
+        refused("edge 8 of ten", NOT, nested, x -> x.deliver(0, 2, 1 << 8, 0));
+        due("edges 7 and 9 of ten", nested.get().deliver(0, 2, 1 << 9 | 1 << 7, 0), 0);
     }
 
     @Holds(promise = 12, sentence = "FULL if one of the edges of outputs has 12 messages for the target.")
@@ -623,6 +687,14 @@ public final class WorkSentenceTests {
         x.receive(1, 5);
         due("undo", x.undo(), 2);
         due("one saved state less", x.digest(), before - 1);
+        due("another receipt", x.receive(1, 2), 2);
+        due("undo", x.undo(), 2);
+        due("in order: +1 for 0 at edge 0", x.receive(1, 1) + x.count(1, 6, 0), 1002);
+        due("the same once more", x.receive(1, 1) + x.count(1, 6, 0), 1003);
+        due("then epoch 1", x.receive(1, 1) + x.count(1, 0, 100), 1002);
+        x.undo();
+        x.undo();
+        x.undo();
         due("back in the queue", x.receive(1, 99), 17);
         ProgressTracker y = new ProgressTracker();
         due("nothing to receive", y.receive(0, 1), 0);
@@ -651,6 +723,46 @@ public final class WorkSentenceTests {
         for (int i = 0; i < 6; i++) {
             due("updates", made[i], due[i]);
         }
+    }
+
+    @Holds(promise = 0, sentence = "for the other worker the updates are put at the end of a queue, and they reach its view only when it receives them, in order.")
+    static void p00LongQueue() {
+        // In each epoch three messages and an advance: 8 updates, of which worker 1 receives 5, so that the queue grows.
+        ProgressTracker x = Graphs.line();
+        List<int[]> waiting = new ArrayList<>();
+        Map<Integer, Integer> view = new TreeMap<>(Map.of(0, 1));
+        for (int epoch = 0; epoch < 9; epoch++) {
+            for (int i = 0; i < 3; i++) {
+                due("send", x.send(0, 0), 100 * epoch);
+                due("process", x.process(0, 0, 0, 0, 0), 100 * epoch);
+                waiting.add(new int[] {6000 + 100 * epoch, 1});
+                waiting.add(new int[] {6000 + 100 * epoch, -1});
+            }
+            due("advance", x.advance(0), epoch + 1);
+            waiting.add(new int[] {100 * epoch + 100, 1});
+            waiting.add(new int[] {100 * epoch, -1});
+            receiveAndCompare(x, 5, waiting, view);
+        }
+        for (int i = 0; i < 27; i++) {
+            receiveAndCompare(x, 1, waiting, view);
+        }
+        due("all has come", x.pending(1), 0);
+        due("undo", x.undo(), 2);
+        due("the last one is back", x.count(1, 0, 800), 1001);
+    }
+
+    private static void receiveAndCompare(ProgressTracker x, int count, List<int[]> waiting, Map<Integer, Integer> view) {
+        due("receive", x.receive(1, count), count);
+        for (int i = 0; i < count; i++) {
+            int[] update = waiting.remove(0);
+            view.merge(update[0], update[1], Integer::sum);
+            int last = update[0];
+            if (i == count - 1) {
+                due("count", x.count(1, last / 1000, last % 1000), 1000 + view.get(last));
+            }
+        }
+        due("pending", x.pending(1), waiting.size());
+        due("active", x.active(1), view.values().stream().filter(n -> n > 0).count());
     }
 
     @Holds(promise = 0, sentence = {"The worker that performs an event applies the updates to its own view at once;", "for the other worker the updates are put at the end of a queue, and they reach its view only when it receives them, in order."})
