@@ -562,6 +562,36 @@ public final class WorkSentenceTests {
         due("then the other one", z.deliver(0, 1, 0, 0), 0);
     }
 
+    @Holds(promise = 12, sentence = "Returns the timestamp of the notification")
+    static void p12GreatestAnswer() {
+        ProgressTracker x = new ProgressTracker();
+        int[] depths = {0, 1, 0, 0, 0, 2};
+        for (int node = 0; node < 6; node++) {
+            x.addNode(depths[node], node == 0 ? 1 : 0);
+        }
+        x.addEdge(0, 1, 0);
+        x.addEdge(1, 1, 1);
+        x.addEdge(1, 5, 0);
+        x.addEdge(5, 5, 1);
+        for (int epoch = 0; epoch < 9; epoch++) {
+            x.advance(0);
+        }
+        x.send(0, 0);
+        x.close(0);
+        x.process(0, 0, 2, 0, 0);
+        for (int round = 1; round <= 9; round++) {
+            due("outer loop", x.process(0, 1, round == 9 ? 4 : 2, 0, 0), 900 + 10 * round);
+        }
+        x.process(0, 2, 8, 0, 0);
+        for (int round = 1; round <= 9; round++) {
+            due("inner loop", x.process(0, 3, round == 9 ? 0 : 8, 0, round == 9 ? 1 : 0), 990 + round);
+        }
+        due("the greatest timestamp at the greatest node", x.deliver(0, 5, 8, 1), 999);
+        due("its message", x.messageTime(1, 3, 0), 999);
+        due("which is dropped", x.process(1, 3, 8, 0, 1), NONE);
+        due("no violation", x.violations(), 0);
+    }
+
     @Holds(promise = 12, sentence = "Undoable.")
     static void p12Undoable() {
         ProgressTracker x = oneDeliverable();
@@ -749,6 +779,24 @@ public final class WorkSentenceTests {
         due("all has come", x.pending(1), 0);
         due("undo", x.undo(), 2);
         due("the last one is back", x.count(1, 0, 800), 1001);
+    }
+
+    @Holds(promise = 13, sentence = "Undoable.")
+    static void p13UndoneAtEachLength() {
+        for (int waiting = 0; waiting < 80; waiting++) {
+            ProgressTracker x = Graphs.line();
+            for (int i = 0; i < waiting; i++) {
+                due("one update", i % 2 == 0 ? x.send(0, 0) : x.process(0, 0, 0, 0, 0), 0);
+            }
+            due("receive", x.receive(1, 99), waiting);
+            x.undo();
+            due("all wait again", x.pending(1), waiting);
+            due("one more is put behind them", x.send(0, 0), 0);
+            due("all but that", waiting == 0 ? 0 : x.receive(1, waiting), waiting);
+            due("before it", x.count(1, 6, 0), 1000 + waiting % 2);
+            due("then that one", x.receive(1, 99), 1);
+            due("with it", x.count(1, 6, 0), 1001 + waiting % 2);
+        }
     }
 
     private static void receiveAndCompare(ProgressTracker x, int count, List<int[]> waiting, Map<Integer, Integer> view) {
